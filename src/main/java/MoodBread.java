@@ -254,7 +254,7 @@ public final class MoodBread {
             return NONE;
         }
         trial.takeOver(present);
-        for (int n = 0; isAhead(n); n++) {
+        for (int n = 0; n <= MOST_AHEAD && isAhead(n); n++) {
             if (n > 0) {
                 life.hourComes(current, trial);
             }

@@ -156,6 +156,9 @@ public final class FaultTest {
     private static void tooManyOpen() {
         town(4, "turn ((((((|(1)))))));");
         town(4, "turn min(1,(((((max|(1,2))))));");
+        town(4, "turn min((((((|(1))))),2);");
+        town(4, "turn 1+max(1,2)*((((((max|(1,2)))))));");
+        good("turn min((((((1))))),(((((2)))))) + max((((((3))))),4);", 1);
         town(4, "deed d when not not not not not not |not all;");
         town(4, "deed d when [[[[[[|[all]]]]]]];");
         town(4, "deed d when not[not[feel(|feel feel 1)=1]];");

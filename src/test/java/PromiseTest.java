@@ -132,6 +132,21 @@ public final class PromiseTest {
         CHECKS.due("4: the last one counts", Checks.townOf("mood a;person p is 9;loaf l leaven 0 by p;bake 3;bake 2;").later(0, 0, 3), 9);
         settings();
         sums();
+        manyTexts();
+    }
+
+    /** As long texts as there can be, one after the other on one object: none is in the way of the next. */
+    private static void manyTexts() {
+        MoodBread x = new MoodBread();
+        String turn = "mood m;person p is 1;loaf l leaven 0 by p;eats p l at 6;night own+1;deed d when day=1 or all;turn 0" + "+1".repeat(740) + ";";
+        for (int i = 0; i < 5; i++) {
+            CHECKS.due("4: a long town", Checks.town(x, turn), 7);
+            CHECKS.due("4: a long sum", x.later(0, 0, 6), 99);
+            CHECKS.due("4: night", x.later(0, 0, 18), 2);
+            CHECKS.due("4: a deed", x.does(0, 0), 1);
+            CHECKS.due("4: a longer question", Checks.ask(x, 0, "least 0" + "+1".repeat(796)), 796);
+            CHECKS.due("4: 1600 bytes", Checks.town(x, " ".repeat(1593) + "whim 5;"), 1);
+        }
     }
 
     private static void settings() {
@@ -474,6 +489,8 @@ public final class PromiseTest {
         CHECKS.due("16: a and b rather than c and e off alike", y.hands(0, 4, 0, 6, 5, 0), 3);
         CHECKS.due("16: three: 10 30 90", y.hands(0, 4, 0, 6, 43, 0), 26);
         CHECKS.due("16: three: 10 30 90", y.hands(0, 4, 0, 6, 43, 1), 43);
+        MoodBread z = Checks.townOf("mood m;person a is 0;person b is 40;person c is 20;loaf l leaven 0 by a;eats a l at 6;");
+        CHECKS.due("16: c rather than a and b, though their bits are less", z.hands(0, 0, 0, 6, 20, 0), 4);
         CHECKS.due("16: below and above alike, the least bits", y.hands(0, 4, 0, 6, 1, 0), 1);
     }
 

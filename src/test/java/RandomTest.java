@@ -243,8 +243,16 @@ public final class RandomTest {
             case 5: return pick("min", "max") + pick("", " ") + "(" + sum(depth - 1, where) + "," + sum(depth - 1, where) + ")";
             case 6: return where == 0 ? "(" + sum(depth - 1, where) + ")" : pick("feel ", "nature ") + part(depth - 1, where);
             case 7: return where == 2 ? "does " + part(depth - 1, where) : "" + below(100);
-            default: return "" + below(10000);
+            default: return nested(where);
         }
+    }
+
+    /** Few are open at once as a rule, now and then too many. */
+    private String nested(int where) {
+        int open = below(4) + below(4);
+        String inner = part(0, where);
+        return where == 0 || below(2) == 0 ? "(".repeat(open) + inner + ")".repeat(open)
+            : pick("feel ", "nature ").repeat(open) + "(" + inner + ")";
     }
 
     private int pickSize() {
@@ -271,7 +279,7 @@ public final class RandomTest {
     private String fact(int depth, int where) {
         int kind = below(depth > 0 ? 8 : 5);
         switch (kind) {
-            case 5: return "not " + fact(depth - 1, where);
+            case 5: return "not ".repeat(1 + below(2) * below(4)) + fact(depth - 1, where);
             case 6: return "[" + test(depth - 1, where) + "]";
             case 7: return "all";
             default: return sum(depth - 1, where) + pick("<", " > ", "=") + sum(depth - 1, where);
@@ -340,19 +348,33 @@ public final class RandomTest {
     private String spoilt(String text) {
         int at = below(text.length() + 1);
         int to = Math.min(text.length(), at + 1 + below(3));
-        switch (below(7)) {
+        switch (below(8)) {
             case 0: return text.substring(0, at);
             case 1: return text.substring(0, at) + text.substring(to);
             case 2: return text.substring(0, at) + pick(PIECES) + text.substring(to);
             case 3: return text.substring(0, at) + pick(PIECES) + text.substring(at);
             case 4: return text.substring(0, at) + " " + pick(PIECES) + " " + text.substring(at);
-            case 5: return swapped(text);
+            case 5: return swapped(text, pick(PIECES));
+            case 6: return otherNumber(text);
             default: return text + (text.length() < 700 ? text.substring(at) : pick(PIECES));
         }
     }
 
+    /** One number becomes another one, that often can't be. */
+    private String otherNumber(String text) {
+        int at = below(text.length() + 1);
+        while (at < text.length() && !Character.isDigit(text.charAt(at))) {
+            at++;
+        }
+        int to = at;
+        while (to < text.length() && Character.isDigit(text.charAt(to))) {
+            to++;
+        }
+        return text.substring(0, at) + pick("24", "99", "100", "101", "9999", "00000") + text.substring(to);
+    }
+
     /** One token becomes another one. */
-    private String swapped(String text) {
+    private String swapped(String text, String other) {
         int from = below(text.length() + 1);
         while (from > 0 && Character.isLetterOrDigit(text.charAt(from - 1))) {
             from--;
@@ -361,6 +383,6 @@ public final class RandomTest {
         while (to < text.length() && Character.isLetterOrDigit(text.charAt(to))) {
             to++;
         }
-        return text.substring(0, from) + pick(PIECES) + text.substring(to);
+        return text.substring(0, from) + other + text.substring(to);
     }
 }
