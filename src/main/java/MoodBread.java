@@ -16,7 +16,7 @@ public final class MoodBread {
     // Tables hold a row of this many for each of the PEOPLE and each LOAF (MOODS), for each kind (NAMES).
     private static final int MOOD_ROW = 4;
     private static final int NAME_ROW = 8;
-    private static final int CELLS = 32;
+    private static final int CELLS = 32; // eight PEOPLE by four MOODS
 
     private static final int MOST_BYTES = 1600;
     private static final int FED_AT_ONCE = 20;
@@ -361,7 +361,7 @@ public final class MoodBread {
         if ((who >> person & 1) == 0 || kneading == 0) {
             return 0;
         }
-        // What is not of ahead of the first baking is shared alike by all who knead.
+        // All that is no longer of what was there ahead of the first baking is shared alike by those who knead.
         long whole = 1;
         long old = 1;
         for (int i = 0; i < n; i++) {
