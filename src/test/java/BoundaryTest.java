@@ -15,15 +15,13 @@ import java.util.regex.Matcher;
 import java.util.regex.Pattern;
 
 /**
- * Runs a test of its own for each sentence of ../shared/DOC.md that names a boundary case, and looks whether there is one:
- * each number and each word in EDGES that the Terms and the promises have must be quoted by some test. Run in the project's
- * folder. With a method's name as its argument it runs that test alone.
+ * Runs the tests of the sentences of ../shared/DOC.md, and looks whether each sentence has one: all words of the Terms, of the
+ * constants and of the promises must be quoted by some test, and no two tests quote the same. Run in the project's folder.
+ * With a method's name as its argument it runs that test alone.
  */
 public final class BoundaryTest {
     private static final List<Class<?>> TESTS = List.of(TownSentences.class, HourSentences.class, QuestionSentences.class, CallSentences.class);
-    private static final Pattern EDGES = Pattern.compile("\\d+|\\b(NONE|NOTHING|refused|true|false|most|least|less|more|without|below|above|beyond"
-        + "|behind|ahead|none|nobody|nothing|stays?|staying|alone|goes|first|last|latest|first|too|unlike|no|not|n't|fewest|others?|another"
-        + "|same|all|each|one|floor|greatest)\\b");
+    private static final Pattern WORD = Pattern.compile("\\S+");
     private static final Map<String, String> PARTS = new LinkedHashMap<>();
     private static final Map<String, BitSet> QUOTED = new LinkedHashMap<>();
 
@@ -73,14 +71,14 @@ public final class BoundaryTest {
         int from = terms.indexOf("\nI. ");
         for (int i = 0; i < numerals.length; i++) {
             int to = i + 1 < numerals.length ? terms.indexOf("\n" + numerals[i + 1] + ". ") : terms.length();
-            part(numerals[i], terms.substring(from, to));
+            part(numerals[i], terms.substring(from + numerals[i].length() + 2, to));
             from = to;
         }
-        part("The constants", document.substring(document.indexOf("The constants:"), document.indexOf("Ahead of the calls")));
+        part("The constants", document.substring(document.indexOf("`NONE = -1`"), document.indexOf("Ahead of the calls")));
         part("What it is", document.substring(document.indexOf("An object is used"), document.indexOf("## The public face")));
         String[] promises = document.substring(document.indexOf("## Promise 1:"), document.indexOf("## Not promised")).split("## Promise ");
         for (int i = 1; i < promises.length; i++) {
-            part("Promise " + i, promises[i].substring(promises[i].indexOf("`: ")));
+            part("Promise " + i, promises[i].substring(promises[i].indexOf("`: ") + 2));
         }
     }
 
@@ -100,12 +98,12 @@ public final class BoundaryTest {
 
     private static void lookForUnquoted(String name, String part) {
         List<String> missing = new ArrayList<>();
-        Matcher edge = EDGES.matcher(part);
-        while (edge.find()) {
-            if (QUOTED.get(name).nextClearBit(edge.start()) < edge.end()) {
-                missing.add(part.substring(Math.max(0, edge.start() - 30), Math.min(part.length(), edge.end() + 30)));
+        Matcher word = WORD.matcher(part);
+        while (word.find()) {
+            if (QUOTED.get(name).nextClearBit(word.start()) < word.end()) {
+                missing.add(word.group());
             }
         }
-        Sentences.CHECKS.due("bounds of " + name + " that no test quotes: " + missing, missing.size(), 0);
+        Sentences.CHECKS.due("words of " + name + " that no test quotes: " + missing, missing.size(), 0);
     }
 }

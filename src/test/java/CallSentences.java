@@ -39,7 +39,7 @@ final class CallSentences extends Sentences {
 
     // ---- what it is, the constants
 
-    @Sentence(at = "What it is", says = "An object is used for at most 512 calls after it has been made;")
+    @Sentence(at = "What it is", says = "An object is used for at most 512 calls after it has been made; what later calls answer is free.")
     static void p00_512Calls() {
         MoodBread x = townOf(FULL);
         int calls = 0;
@@ -56,6 +56,12 @@ final class CallSentences extends Sentences {
         due("call 510", x.has(8), 20);
         due("call 511", x.undo(), true);
         due("call 512", x.has(8), 19);
+        // what is free may be anything, but LANGUAGE.md lets no call fail
+        for (int i = 0; i < 200; i++) {
+            x.feed(i, i, i, i, i);
+            x.go(1);
+        }
+        x.town();
     }
 
     @Sentence(at = "The constants", says = "`NONE = -1`: There is none; it is refused.")
@@ -965,11 +971,13 @@ final class CallSentences extends Sentences {
         x.calm(2, 1, 66);
         images[3] = Checks.image(x);
         x.days(3);
+        Checks.see(x, 0, 0, 0, 1);
         for (int i = 3; i >= 0; i--) {
             due("undo", x.undo(), true);
             due("ACTS", x.has(8), i);
             due("as it was", Checks.image(x).equals(images[i]), true);
         }
+        due("what is SEEN is no ACT", x.has(7), 1);
         x.days(5);
         MoodBread y = townOf(TOWN + "whim 5;night (own + now) / 2;");
         long seed = 1;
@@ -1379,7 +1387,9 @@ final class CallSentences extends Sentences {
         String image = Checks.image(x);
         MoodBread y = townOf(TOWN);
         y.go(1);
+        Checks.see(y, 0, 0, 0, 5);
         due("on", Checks.on(y, image), true);
+        due("what is SEEN it does not tell", y.has(7), 1);
         due("the tape goes", tapeAfterwards(y), 20);
         due("as it tells", Checks.image(y).equals(image), true);
         x.go(77);

@@ -560,6 +560,10 @@ final class HourSentences extends Sentences {
         due("p by 10 against 11", near.votes(0, 1, 0), 1);
         due("q by 11 against 10", near.votes(0, 1, 1), 1);
         due("none for neither", near.votes(0, 1, 2), 0);
+        MoodBread signs = townOf("mood m;mood n;person p is 50 50;loaf k leaven 0 by p;loaf l leaven 0 by p;");
+        due("on", Checks.on(signs, imageOf(5, 50, 50, 50, 50, 1, 40, 60, 1, 45, 45)), true);
+        due("10 and -10 are 20, 5 and 5 are 10", signs.votes(0, 1, 1), 1);
+        due("10 and -10 are 20, 5 and 5 are 10", signs.votes(0, 1, 0), 0);
     }
 
     // ---- III: SEEN, KNEADERS, LOOK

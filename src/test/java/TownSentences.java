@@ -274,6 +274,24 @@ final class TownSentences extends Sentences {
         holds("0 - 1 < 0", true);
     }
 
+    @Sentence(at = "I", says = "SUM: PRODUCT { + or - PRODUCT }. PRODUCT: PART { * or / PART }.")
+    static void i12_productsBindAheadOfSums() {
+        sum("2+3*4", 14);
+        sum("2*3+4", 10);
+        sum("20-6/3", 18);
+        sum("20/5-3", 1);
+        sum("1+2*3-8/4+5", 10);
+        sum("1+1+1+1+1+1+1+1", 8);
+        sum("2*2*2*2*2*2", 64);
+        fault(1, "turn 1+|;");
+        fault(1, "turn 1*|;");
+        fault(1, "turn |+1;");
+        fault(1, "turn |*1;");
+        fault(1, "turn 1+|-1;");
+        fault(1, "turn 1 |2;");
+        fault(1, "turn 1|%2;");
+    }
+
     @Sentence(at = "I", says = "PART: N (1 to 4 digits);")
     static void i12_numbersOf1To4Digits() {
         sum("0", 0);
@@ -299,6 +317,18 @@ final class TownSentences extends Sentences {
         sum("max(0-3,0-4)", -3);
         sum("2*(3+4)", 14);
         sum("min(1+1,max(3,4)*2)-1", 1);
+    }
+
+    @Sentence(at = "I", says = "clock; day;")
+    static void i14_clockAndDayEverywhere() {
+        for (String word : new String[] {"clock", "day"}) {
+            good("turn " + word + ";night 1+" + word + ";deed d when " + word + "=" + word + "*2;");
+            goodQuestion("total " + word);
+            goodQuestion("first 1 < " + word);
+            fault(1, "turn " + word + " |1;");
+            fault(1, "deed d when " + word + "|;");
+        }
+        good("deed d when feel clock = nature day;");
     }
 
     @Sentence(at = "I", says = "in turn and night: own; now; bread; which;")
